@@ -536,7 +536,9 @@ public final class EqualTerms {
         private final Walk walk;
         /** The class that each place of the first side is to be in. */
         private final int[] seats = new int[MOST_SIDE];
-        private int nodesBefore = 0;
+        /** The nodes before the round, class by class; those of class c begin at begins[c]. */
+        private final int[] listed = new int[MOST_NODES];
+        private final int[] begins = new int[MOST_NODES + 1];
 
         Round(Graph graph, Walk walk) {
             this.graph = graph;
@@ -545,8 +547,9 @@ public final class EqualTerms {
 
         /** False, and nothing is done, when the round is full. */
         boolean fitAll(Rule[] rules, int count) {
-            nodesBefore = graph.nodeCount;
+            int nodesBefore = graph.nodeCount;
             int classesBefore = graph.classCount;
+            listNodes();
             changed = false;
             for (int r = 0; r < count; r++) {
                 for (int c = 0; c < classesBefore; c++) {
@@ -562,6 +565,20 @@ public final class EqualTerms {
                 graph.settle();
             }
             return true;
+        }
+
+        private void listNodes() {
+            int count = 0;
+            for (int c = 0; c < graph.classCount; c++) {
+                begins[c] = count;
+                for (int n = 0; n < graph.nodeCount; n++) {
+                    if (graph.homes[n] == c) {
+                        listed[count] = n;
+                        count++;
+                    }
+                }
+            }
+            begins[graph.classCount] = count;
         }
 
         /**
@@ -580,9 +597,9 @@ public final class EqualTerms {
                 return walk.variables[sign - 'a'] != seats[p] || fitFrom(rule, p + 1);
             }
             int home = seats[p];
-            for (int n = 0; n < nodesBefore; n++) {
-                if (graph.signs[n] == sign && graph.homes[n] == home) {
-                    seatParts(rule, p, n);
+            for (int i = begins[home]; i < begins[home + 1]; i++) {
+                if (graph.signs[listed[i]] == sign) {
+                    seatParts(rule, p, listed[i]);
                     if (!fitFrom(rule, p + 1)) {
                         return false;
                     }
@@ -602,12 +619,12 @@ public final class EqualTerms {
         }
 
         private boolean joinSides(Rule rule) {
-            int nodesYet = graph.nodeCount;
             int second = walk.classOf(rule.characters, rule.middle + 1, rule.characters.length, true);
             if (second == NONE) {
                 return false;
             }
-            if (graph.join(seats[0], second) || graph.nodeCount > nodesYet) {
+            // A second side that adds nodes is in a class of its own, so that joining it tells, too.
+            if (graph.join(seats[0], second)) {
                 changed = true;
             }
             return true;

@@ -7,6 +7,7 @@ public final class BestTest {
     public static void main(String[] args) {
         prices();
         costs();
+        costsOfLateParts();
         bests();
         ties();
         longTerms();
@@ -55,6 +56,16 @@ public final class BestTest {
                 "cost " + SUM_31 + " -> 31000000000");
     }
 
+    /** What makes each class cheap comes to be behind all that is made of it. */
+    private static void costsOfLateParts() {
+        Script.run("promise 15, late parts",
+                "price 1 100 -> done", "price 2 100 -> done", "price 3 100 -> done",
+                "price 4 100 -> done", "price 5 100 -> done",
+                "unite 5=-4 -> 2", "unite 4=-3 -> 3", "unite 3=-2 -> 4", "unite 2=-1 -> 5",
+                "cost 5 -> 100", "cost 2 -> 100", "unite 1=x -> 5", "cost 5 -> 5", "best 5 -> 5",
+                "text -> ----x", "wipe -> 5", "best 2 -> 2", "text -> -x");
+    }
+
     private static void bests() {
         Script.run("promise 16",
                 "best x -> -1", "text -> ", "unite +xy=*x2 -> 4", "best +xy -> 3", "text -> *x2",
@@ -80,6 +91,9 @@ public final class BestTest {
                 "unite x=-y -> 2", "price x 2 -> done", "best x -> 1", "text -> x", "wipe -> 1",
                 "unite !z=+0*12 -> 8", "price ! 4 -> done", "cost !z -> 5", "best !z -> 2",
                 "text -> !z", "wipe -> 2", "price ! 5 -> done", "best !z -> 5", "text -> +0*12");
+        Script.run("of equal cost the fewest signs, the other way round",
+                "unite -y=x -> 2", "price x 2 -> done", "best -y -> 1", "text -> x", "wipe -> 1",
+                "add !x -> 4", "best !-y -> 2", "text -> !x");
         Script.run("of equal cost and signs the first by codes",
                 "unite z=y -> 1", "best z -> 1", "text -> y", "wipe -> 1", "unite y=x -> 1",
                 "best z -> 1", "text -> x", "wipe -> 1", "unite z=7 -> 1", "best x -> 1",
