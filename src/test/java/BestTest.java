@@ -16,29 +16,12 @@ public final class BestTest {
     }
 
     private static void prices() {
-        EqualTerms terms = new EqualTerms();
-        String signs = "0123456789xyz-!+*^";
-        for (int sign = -300; sign <= 300; sign++) {
-            String want = sign > 0 && signs.indexOf(sign) >= 0 ? "done" : IAE;
-            Script.due("promise 10", "price(" + sign + ", 7)", price(terms, sign, 7), want);
-        }
-        Script.due("promise 10", "far sign", price(terms, Integer.MAX_VALUE, 7), IAE);
-        Script.due("promise 10", "far sign", price(terms, Integer.MIN_VALUE, 7), IAE);
-        Script.due("promise 10", "far sign", price(terms, 'x' + 65536, 7), IAE);
         Script.run("promise 10",
                 "price x 1 -> done", "price x 0 -> " + IAE, "price x -1 -> " + IAE,
                 "price x 1000000001 -> " + IAE, "price x -2147483648 -> " + IAE,
                 "add x -> 1", "cost x -> 1", "price x 1000000000 -> done", "cost x -> 1000000000",
-                "price x 1000000001 -> " + IAE, "cost x -> 1000000000", "place -> -1");
-    }
-
-    private static String price(EqualTerms terms, int sign, int price) {
-        try {
-            terms.price(sign, price);
-            return "done";
-        } catch (RuntimeException e) {
-            return "throws." + e.getClass().getSimpleName();
-        }
+                "price x 1000000001 -> " + IAE, "cost x -> 1000000000", "place -> -1",
+                "price a 1 -> " + IAE, "price = 1 -> " + IAE);
     }
 
     private static void costs() {

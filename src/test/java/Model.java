@@ -51,8 +51,20 @@ final class Model {
         }
     }
 
-    String state() {
-        return text + " " + place + " " + nodes.size() + " " + classes().size();
+    String text() {
+        return text;
+    }
+
+    String place() {
+        return "" + place;
+    }
+
+    String nodes() {
+        return "" + nodes.size();
+    }
+
+    String classes() {
+        return "" + homes().size();
     }
 
     String type(String piece) {
@@ -170,7 +182,7 @@ final class Model {
             return "" + nodes.size();
         }
         uniteAll(List.of(new int[] {homes.get(0), homes.get(1)}));
-        return "" + classes().size();
+        return classes();
     }
 
     private Integer grow(Tree tree, Map<Character, Integer> variables) {
@@ -202,7 +214,7 @@ final class Model {
         return nodes.get(node);
     }
 
-    private TreeSet<Integer> classes() {
+    private TreeSet<Integer> homes() {
         return new TreeSet<>(nodes.values());
     }
 
@@ -280,7 +292,7 @@ final class Model {
                 fits.add(new Fit(first, sides[1], new HashMap<>(set)));
             }
         } else if (has(sides[0], open.charAt(0))) {
-            for (int home : classes()) {
+            for (int home : homes()) {
                 set.put(open.charAt(0), home);
                 findFits(sides, open.substring(1), set, fits);
             }

@@ -1,7 +1,8 @@
 /** Long runs of calls on an object and on the model beside it, the same ones each time. */
 public final class ModelTest {
-    private static final int RUNS = 300;
-    private static final int CALLS = 120;
+    private static final int RUNS = 700;
+    /** Kept for the last step of a run; Script would tell if one took more. */
+    private static final int CALLS_OF_A_STEP = 90;
     private static final String[] KNOWN_RULES = {
         "+ab=+ba", "*ab=*ba", "++abc=+a+bc", "+a+bc=++abc", "+a0=a", "*a1=a", "*a0=0", "+a-a=0",
         "--a=a", "a=--a", "*a+bc=+*ab*ac", "+*ab*ac=*a+bc", "^a2=*aa", "^a1=a", "!!a=a", "a=!a",
@@ -10,7 +11,7 @@ public final class ModelTest {
     };
 
     private long seed;
-    private EqualTerms terms;
+    private Script terms;
     private Model model;
     private String leaves;
     private String pairSigns;
@@ -29,12 +30,13 @@ public final class ModelTest {
 
     private void play(int run) {
         seed = run * 7919L;
-        terms = new EqualTerms();
+        terms = new Script("run " + run);
         model = new Model();
         leaves = shuffled("0123456789xyz").substring(0, 2 + next(6));
         pairSigns = shuffled("+*^").substring(0, 1 + next(3));
-        for (int i = 0; i < CALLS; i++) {
-            step("run " + run + ", step " + i);
+        while (terms.callsLeft() >= CALLS_OF_A_STEP) {
+            step();
+            look();
         }
     }
 
@@ -49,51 +51,58 @@ public final class ModelTest {
         return done.toString();
     }
 
-    private void step(String name) {
+    private void step() {
         int choice = next(100);
         if (choice < 10) {
             int most = next(30) == 0 ? next(30) - 4 : next(4);
-            due(name, "rounds " + most, model.rounds(most));
+            terms.check("rounds " + most, model.rounds(most));
         } else if (choice < 16) {
             int sign = next(8) == 0 ? 33 + next(94) : "0123456789xyz-!+*^".charAt(next(18));
             int price = next(10) == 0 ? 1000000000 - 1 + next(3) : next(8);
-            due(name, "price " + (char) sign + " " + price, model.price(sign, price));
+            terms.check("price " + (char) sign + " " + price, model.price(sign, price));
         } else if (choice < 20) {
-            due(name, "wipe", model.wipe());
+            terms.check("wipe", model.wipe());
         } else if (choice < 34) {
-            onText(name, "rule", next(3) == 0 ? sides(pattern(3), pattern(3)) : knownRule());
+            onText("rule", next(3) == 0 ? sides(pattern(3), pattern(3)) : knownRule());
         } else if (choice < 50) {
-            onText(name, "add", term(1 + next(4)));
+            onText("add", term(1 + next(4)));
         } else if (choice < 64) {
-            onText(name, "unite", sides(term(next(4)), term(next(3))));
+            onText("unite", sides(term(next(4)), term(next(3))));
         } else if (choice < 76) {
-            onText(name, "same", sides(term(next(4)), term(next(4))));
+            onText("same", sides(term(next(4)), term(next(4))));
         } else {
             String call = choice < 82 ? "members" : choice < 89 ? "cost" : "best";
-            onText(name, call, term(next(4)));
+            onText(call, term(next(4)));
         }
-        Script.due(name, "the state", state(), model.state());
     }
 
-    private void due(String name, String call, String want) {
-        Script.due(name, call, Script.answer(terms, call), want);
+    /** The text takes many calls to look at, so that is done now and then only. */
+    private void look() {
+        terms.check("nodes", model.nodes());
+        terms.check("classes", model.classes());
+        if (next(3) == 0) {
+            terms.check("place", model.place());
+        }
+        if (next(12) == 0) {
+            terms.check("text", model.text());
+        }
     }
 
-    private String state() {
-        return Script.text(terms) + " " + terms.place() + " " + terms.nodes() + " " + terms.classes();
-    }
-
-    private void onText(String name, String call, String text) {
+    private void onText(String call, String text) {
         String typed = next(12) == 0 ? spoilt(text) : text;
         for (int from = 0; from < typed.length(); ) {
-            String piece = typed.substring(from, Math.min(typed.length(), from + 1 + next(8)));
+            int most = next(2) == 0 ? 8 : 1 + next(8);
+            String piece = typed.substring(from, Math.min(typed.length(), from + most));
             String want = model.type(piece);
-            Script.due(name, "type " + piece, "" + terms.type(Script.bytes(piece), piece.length()), want);
+            Script.due("type", piece, "" + terms.typePiece(piece), want);
             from += piece.length();
         }
-        due(name, call + " .", model.onText(call));
-        if (next(3) != 0) {
-            due(name, "wipe", model.wipe());
+        terms.check(call + " .", model.onText(call));
+        if (call.equals("best") && next(4) == 0) {
+            terms.check("text", model.text());
+        }
+        if (!model.text().isEmpty() && next(3) != 0) {
+            terms.check("wipe", model.wipe());
         }
     }
 

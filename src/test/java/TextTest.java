@@ -1,5 +1,6 @@
 /** Promises 1 to 5: a new object, type, wipe, character, place. */
 public final class TextTest {
+    private static final String IAE = "throws.IllegalArgumentException";
     private static final String FIFTY_FIVE = "-".repeat(54) + "x";
 
     public static void main(String[] args) {
@@ -31,33 +32,14 @@ public final class TextTest {
     }
 
     private static void bytesTyped() {
-        EqualTerms terms = new EqualTerms();
-        typed(terms, 0x4142434445464748L, 8, 8);
-        typed(terms, 0x4142434445464748L, 3, 11);
-        typed(terms, 0xFFFFFFFFFFFFFF21L, 1, 12);
-        typed(terms, 0x000000000000007EL, 1, 13);
-        Script.due("promise 2", "text", Script.text(terms), "ABCDEFGHFGH!~");
-        typed(terms, 32, 1, -1);
-        typed(terms, 127, 1, -1);
-        typed(terms, 0, 1, -1);
-        typed(terms, 0xF8, 1, -1);
-        typed(terms, -1, 8, -1);
-        typed(terms, 0x2041, 2, -1);
-        typed(terms, 0x4120, 2, -1);
-        typed(terms, 0x2042434445464748L, 8, -1);
-        typed(terms, 0xC142434445464748L, 8, -1);
-        typed(terms, 0x41, 0, -1);
-        typed(terms, 0x41, -1, -1);
-        typed(terms, 0x41, 2, -1);
-        typed(terms, 0x4141414141414141L, 9, -1);
-        typed(terms, 0x4141414141414141L, Integer.MAX_VALUE, -1);
-        typed(terms, 0x4141414141414141L, Integer.MIN_VALUE, -1);
-        Script.due("promise 2", "text", Script.text(terms), "ABCDEFGHFGH!~");
-    }
-
-    private static void typed(EqualTerms terms, long characters, int n, int want) {
-        String call = "type(" + characters + ", " + n + ")";
-        Script.due("promise 2", call, "" + terms.type(characters, n), "" + want);
+        Script.run("promise 2, bytes",
+                "bytes 4142434445464748 8 -> 8", "bytes 4142434445464748 3 -> 11",
+                "bytes FFFFFFFFFFFFFF21 1 -> 12", "bytes 7E 1 -> 13", "text -> ABCDEFGHFGH!~",
+                "bytes 20 1 -> -1", "bytes 7F 1 -> -1", "bytes 0 1 -> -1", "bytes F8 1 -> -1",
+                "bytes FFFFFFFFFFFFFFFF 8 -> -1", "bytes 2041 2 -> -1", "bytes 4120 2 -> -1",
+                "bytes 2042434445464748 8 -> -1", "bytes C142434445464748 8 -> -1",
+                "bytes 41 0 -> -1", "bytes 41 -1 -> -1", "bytes 41 2 -> -1",
+                "bytes 4141414141414141 9 -> -1", "text -> ABCDEFGHFGH!~");
     }
 
     private static void lengthLimit() {
@@ -69,33 +51,27 @@ public final class TextTest {
     }
 
     private static void place() {
-        String iae = "throws.IllegalArgumentException";
         Script.run("promise 5",
                 "add x -> 1", "place -> -1",
-                "add . -> " + iae, "place -> 0",
-                "add +x -> " + iae, "place -> 2", "text -> +x", "add y -> 3", "place -> 2",
-                "add a -> " + iae, "place -> 0", "wipe -> 1", "place -> 0",
-                "members xy -> " + iae, "place -> 1", "wipe -> 2",
-                "cost -x= -> " + iae, "place -> 2", "wipe -> 3",
-                "best *x+=y -> " + iae, "place -> 3", "wipe -> 5",
-                "same x=*yzz -> " + iae, "place -> 5", "wipe -> 6",
-                "unite xy=z -> " + iae, "place -> 1", "wipe -> 4",
-                "rule -a=*aab -> " + iae, "place -> 6", "wipe -> 7",
-                "rounds 21 -> " + iae, "price a 1 -> " + iae, "place -> 6",
-                "add " + "-".repeat(60) + " -> " + iae, "place -> 60", "type x -> -1", "wipe -> 60");
+                "add . -> " + IAE, "place -> 0",
+                "add +x -> " + IAE, "place -> 2", "text -> +x", "add y -> 3", "place -> 2",
+                "add a -> " + IAE, "place -> 0", "wipe -> 1", "place -> 0",
+                "members xy -> " + IAE, "place -> 1", "wipe -> 2",
+                "cost -x= -> " + IAE, "place -> 2", "wipe -> 3",
+                "best *x+=y -> " + IAE, "place -> 3", "wipe -> 5",
+                "same x=*yzz -> " + IAE, "place -> 5", "wipe -> 6",
+                "unite xy=z -> " + IAE, "place -> 1", "wipe -> 4",
+                "rule -a=*aab -> " + IAE, "place -> 6", "wipe -> 7",
+                "rounds 21 -> " + IAE, "price a 1 -> " + IAE, "place -> 6",
+                "add " + "-".repeat(60) + " -> " + IAE, "place -> 60", "type x -> -1", "wipe -> 60");
     }
 
     private static void objectsApart() {
-        EqualTerms one = new EqualTerms();
-        EqualTerms other = new EqualTerms();
-        Script.answer(one, "add +xy");
-        Script.answer(one, "rule a=-a");
-        Script.answer(one, "price x 9");
-        Script.answer(one, "type z");
-        Script.due("promise 1", "other text", Script.answer(other, "text"), "");
-        Script.due("promise 1", "other nodes", Script.answer(other, "nodes"), "0");
-        Script.due("promise 1", "other rule", Script.answer(other, "rule a=!a"), "1");
-        Script.due("promise 1", "other add", Script.answer(other, "add x"), "1");
-        Script.due("promise 1", "other cost", Script.answer(other, "cost x"), "1");
+        Script one = new Script("promise 1, one object");
+        Script other = new Script("promise 1, another object");
+        one.lines("add +xy -> 3", "rule a=-a -> 1", "price x 9 -> done", "add +x -> " + IAE);
+        other.lines("text -> ", "place -> -1", "nodes -> 0", "rule a=!a -> 1", "add x -> 1",
+                "cost x -> 1");
+        one.lines("text -> +x", "nodes -> 3", "rounds 1 -> 1", "nodes -> 6");
     }
 }
