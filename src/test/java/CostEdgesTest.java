@@ -21,11 +21,13 @@ public final class CostEdgesTest {
         bestOfWhatIsNotThere();
         bestOfNoTerm();
         bestOfOneSign();
+        bestAtFortyClasses();
         bestOfSixty();
         bestOfSixtyOne();
         longOnlyWhenItIsBest();
         farTooLong();
         leastCostThenFewestSigns();
+        leastCostOfLateParts();
         thenTheCodes();
         aClassInsideItself();
         Script.end();
@@ -141,6 +143,14 @@ public final class CostEdgesTest {
                 "text -> 0", "character 1 -> -1", "type = -> 2", "same 0 -> 1");
     }
 
+    private static void bestAtFortyClasses() {
+        String forty = "-".repeat(39) + "x";
+        Script.run("promises 15, 16, forty classes", "add " + forty + " -> 40", "classes -> 40",
+                "cost " + forty + " -> 40", "best " + forty + " -> 40", "text -> " + forty,
+                "wipe -> 40", "best x -> 1", "text -> x", "cost . -> 1", "unite x=-x -> 1",
+                "best " + forty + " -> 1", "text -> x");
+    }
+
     /** All digits are dear; of the long terms 0 is 29 signs, 1 is 59, 2 is 60 and 3 is 61. */
     private static Script longTerms() {
         Script run = new Script("promise 16, sixty signs");
@@ -193,9 +203,24 @@ public final class CostEdgesTest {
         Script.run("the least cost", "unite 0=-x -> 2", "price 0 3 -> done", "best 0 -> 2",
                 "text -> -x", "wipe -> 2", "price 0 2 -> done", "best 0 -> 1", "text -> 0",
                 "wipe -> 1", "price 0 1 -> done", "best 0 -> 1");
+        Script.run("the fewest signs, whichever is there first", "unite -x=0 -> 2",
+                "price 0 2 -> done", "best 0 -> 1", "text -> 0", "wipe -> 1", "add !-x -> 4",
+                "best !-x -> 2", "text -> !0", "wipe -> 2", "unite 1=!!2 -> 6", "price 1 3 -> done",
+                "best !!2 -> 1", "text -> 1");
         Script.run("the fewest signs, with parts", "unite 0=-x -> 2", "price 0 2 -> done",
                 "unite y=*0-0 -> 4", "price y 9 -> done", "cost y -> 6", "best y -> 4",
                 "text -> *0-0", "wipe -> 4", "price 0 3 -> done", "best y -> 6", "text -> *-x--x");
+    }
+
+    /** Each class gets its cheapest term behind those that are made of it. */
+    private static void leastCostOfLateParts() {
+        Script run = new Script("the least cost, late parts");
+        for (int i = 0; i < 9; i++) {
+            run.lines("price " + (9 - i) + " 1000 -> done",
+                    "unite " + (9 - i) + "=-" + (8 - i) + " -> " + (2 + i));
+        }
+        run.lines("price 0 1000 -> done", "cost 9 -> 1000", "cost 0 -> 1000", "unite 0=x -> 10",
+                "cost 0 -> 1", "cost 9 -> 10", "best 9 -> 10", "text -> ---------x");
     }
 
     private static void thenTheCodes() {

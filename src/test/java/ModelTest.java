@@ -34,9 +34,29 @@ public final class ModelTest {
         model = new Model();
         leaves = shuffled("0123456789xyz").substring(0, 2 + next(6));
         pairSigns = shuffled("+*^").substring(0, 1 + next(3));
+        if (run % 4 == 0) {
+            growLongTerms();
+        }
         while (terms.callsLeft() >= CALLS_OF_A_STEP) {
             step();
             look();
+        }
+    }
+
+    /** Each leaf is a sum of the one before it, too, at prices where some sums of over 60 are best. */
+    private void growLongTerms() {
+        for (int i = 1; i < leaves.length(); i++) {
+            char part = leaves.charAt(i - 1);
+            char sum = leaves.charAt(i);
+            int price = 50 + next(200);
+            terms.check("price " + sum + " " + price, model.price(sum, price));
+            String parts = next(2) == 0 ? "+*" + part + part + part : "+!" + part + "*" + part + part;
+            onText("unite", sum + "=" + parts);
+            terms.check("wipe", model.wipe());
+        }
+        for (char leaf : leaves.toCharArray()) {
+            onText("best", "" + leaf);
+            terms.check("wipe", model.wipe());
         }
     }
 

@@ -24,6 +24,7 @@ public final class RoundEdgesTest {
         fullCountsBeforeUniting();
         unitesAtForty();
         classesAsBeforeTheRound();
+        sidesOfSeven();
         oneVariableTwice();
         Script.end();
     }
@@ -198,6 +199,19 @@ public final class RoundEdgesTest {
                 "add +xy -> 3", "rounds 1 -> 1", "members 0 -> -1", "rounds 1 -> 1", "members 0 -> 2");
         Script.run("a round, new nodes are of classes before it", "rule x=y -> 1", "rule a=!a -> 2",
                 "add x -> 1", "add y -> 2", "rounds 1 -> 1", "nodes -> 3", "classes -> 1");
+    }
+
+    private static void sidesOfSeven() {
+        Script.run("a first side of seven, in a row", "rule ------a=0 -> 1", "add -----x -> 6",
+                "rounds 20 -> 0", "add ------x -> 7", "rounds 20 -> 1", "same ------x=0 -> 1");
+        Script.run("a first side of seven, in pairs", "rule +++abca=0 -> 1", "add +++xyzy -> 6",
+                "rounds 20 -> 0", "add +++xyzx -> 7", "rounds 20 -> 1", "same +++xyzx=0 -> 1",
+                "same +++xyzy=0 -> 0");
+        Script.run("a second side of seven", "rule a=------a -> 1", "add x -> 1", "rounds 20 -> 1",
+                "nodes -> 7", "classes -> 6", "same x=------x -> 1", "same x=-----x -> 0");
+        Script.run("both sides of seven", "rule +-a*!bc=^c+!b-a -> 1", "add +-x*!yz -> 7",
+                "add +*!yz-x -> 8", "rounds 20 -> 1", "nodes -> 10", "same +-x*!yz=^z+!y-x -> 1",
+                "same +*!yz-x=^z+!y-x -> 0");
     }
 
     private static void oneVariableTwice() {
