@@ -655,7 +655,9 @@ public final class EqualTerms {
             for (int pass = 0; pass < graph.classCount && better; pass++) {
                 better = false;
                 for (int n = 0; n < graph.nodeCount; n++) {
-                    better |= weighNode(n);
+                    if (weighNode(n)) {
+                        better = true;
+                    }
                 }
             }
         }
